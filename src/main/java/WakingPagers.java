@@ -699,7 +699,6 @@ public final class WakingPagers {
             pager = who;
             air = what;
             storedNow = 0;
-            running = null;
             int at = hunt(from);
             // Each turn takes a word at least, so there are no more turns than words on the air.
             for (int turn = 0; turn < Air.MOST_WORDS && air.hasWord(at); turn++) {

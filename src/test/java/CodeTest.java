@@ -43,43 +43,48 @@ public final class CodeTest {
         return Integer.bitCount(word) % 2 == 0 ? word : word + 1;
     }
 
+    // An object is promised for 512 calls alone, so each of these many calls has its own.
+    private static int code(int data) {
+        return new WakingPagers().code(data);
+    }
+
+    private static int repair(int word) {
+        return new WakingPagers().repair(word);
+    }
+
     private static void codewords() {
-        WakingPagers x = new WakingPagers();
-        due.is("code(0)", x.code(0), 0);
-        due.is("code(1)", x.code(1), 0xED3);
-        due.is("code of SYNC's data", x.code(Net.SYNC >>> 11), Net.SYNC);
-        due.is("code of IDLE's data", x.code(Net.IDLE >>> 11), Net.IDLE);
-        due.is("code(2^21 - 1)", x.code((1 << 21) - 1), -1);
+        due.is("code(0)", code(0), 0);
+        due.is("code(1)", code(1), 0xED3);
+        due.is("code of SYNC's data", code(Net.SYNC >>> 11), Net.SYNC);
+        due.is("code of IDLE's data", code(Net.IDLE >>> 11), Net.IDLE);
+        due.is("code(2^21 - 1)", code((1 << 21) - 1), -1);
         for (int data = 0; data < 1 << 21; data += 97) {
-            due.is("code(" + data + ")", x.code(data), plainCodeword(data));
+            due.is("code(" + data + ")", code(data), plainCodeword(data));
         }
     }
 
     private static void codeOfNoData() {
-        WakingPagers x = new WakingPagers();
         int[] wrong = {-1, 1 << 21, (1 << 21) + 1, Integer.MAX_VALUE, Integer.MIN_VALUE};
         for (int data : wrong) {
-            due.is("code(" + data + ")", x.code(data), 0);
+            due.is("code(" + data + ")", code(data), 0);
         }
     }
 
     private static void repairsUpToTwoBits() {
-        WakingPagers x = new WakingPagers();
         int[] some = {0, 1, 0x155555, 0x0F0F0F, (1 << 21) - 1, 1 << 20, Net.IDLE >>> 11};
         for (int data : some) {
             int word = plainCodeword(data);
-            due.is("repair of " + data, x.repair(word), data);
+            due.is("repair of " + data, repair(word), data);
             for (int a = 0; a < 32; a++) {
-                due.is("repair of " + data + " but " + a, x.repair(word ^ 1 << a), data);
+                due.is("repair of " + data + " but " + a, repair(word ^ 1 << a), data);
                 for (int b = a + 1; b < 32; b++) {
-                    due.is("repair of " + data + " but " + a + ", " + b, x.repair(word ^ 1 << a ^ 1 << b), data);
+                    due.is("repair of " + data + " but " + a + ", " + b, repair(word ^ 1 << a ^ 1 << b), data);
                 }
             }
         }
     }
 
     private static void threeWrongBitsAreBroken() {
-        WakingPagers x = new WakingPagers();
         int[] some = {0, 0x12345, (1 << 21) - 1};
         for (int data : some) {
             int word = plainCodeword(data);
@@ -87,7 +92,7 @@ public final class CodeTest {
                 for (int b = a + 1; b < 32; b++) {
                     for (int c = b + 1; c < 32; c++) {
                         int wrong = word ^ 1 << a ^ 1 << b ^ 1 << c;
-                        due.is("repair of " + data + " with three wrong", x.repair(wrong), WakingPagers.NONE);
+                        due.is("repair of " + data + " with three wrong", repair(wrong), WakingPagers.NONE);
                     }
                 }
             }

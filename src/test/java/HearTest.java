@@ -1,4 +1,4 @@
-/** Promises 14 to 19: hear, kept, message, sign, missed, count. */
+/** Promises 14 to 17 and 19: hear, kept, message, sign, count. */
 public final class HearTest {
     private static final Due due = new Due("HearTest");
     private static final int NONE = WakingPagers.NONE;
@@ -13,6 +13,7 @@ public final class HearTest {
         startsAnywhere();
         syncWithWrongBits();
         lostSyncEndsTheMessage();
+        lostMessageDoesNotGoOn();
         huntsAnewFromEmpty();
         syncOffTheGrid();
         tooFewBitsForAWord();
@@ -26,6 +27,7 @@ public final class HearTest {
         fillersAtTheEnd();
         atMostTwentyTwoSigns();
         keepsTheLatestTen();
+        marksGoWithTheOldest();
         wrongQuestions();
         due.end();
     }
@@ -122,6 +124,20 @@ public final class HearTest {
         // Content bits: 20, so the number's sign and one whole sign more.
         keptIs(x, 0, 1, "0:0:a");
         due.is("it hunted to the end", x.count(0, AWAKE), 96 + 2 * 32 + 32 + 3 * 32 + 2 * 32 + 96 + 2 * 32 + 32 + 512);
+    }
+
+    private static void lostMessageDoesNotGoOn() {
+        WakingPagers x = Net.single(8 * 6 + 7, 0);
+        Net.callDigits(x, 0, 0, "12345678");
+        x.transmit(3);
+        for (int k = 0; k < 5; k++) {
+            x.flip(608 + 3 * k);
+        }
+        // A message word where the third batch begins, of which the message must not have more.
+        Net.writeOverIdle(x, 32, Net.messageWord(x, Net.digits(7, 7, 7, 7, 7)));
+        due.is("hear(0, 0)", x.hear(0, 0), 1);
+        keptIs(x, 0, 0, "0:0:123");
+        due.is("it sleeps in the third batch till frame 7", x.count(0, AWAKE), 96 + 64 + 32 + 544 + 64);
     }
 
     private static void huntsAnewFromEmpty() {
@@ -344,31 +360,30 @@ public final class HearTest {
 
     private static void atMostTwentyTwoSigns() {
         WakingPagers x = Net.single(8 * 3, 1);
-        x.identity(8 * 3 + 1, 0);
-        x.join(0, 1);
-        x.transmit(2);
-        Net.writePlace(x, 0, Net.addressWord(x, 8 * 3, 1));
-        for (int place = 1; place < 10; place++) {
-            Net.writePlace(x, place, Net.messageWord(x, 0xFFFFF));
-        }
+        x.transmit(1);
+        Net.writeOverIdle(x, 0, Net.addressWord(x, 8 * 3, 1));
         // The first sign is 33, the number 1.
-        Net.writePlace(x, 1, Net.messageWord(x, 0x84000 | 0x1FFF));
+        Net.writeOverIdle(x, 1, Net.messageWord(x, 0x84000 | 0x1FFF));
+        for (int place = 2; place < 10; place++) {
+            Net.writeOverIdle(x, place, Net.messageWord(x, 0xFFFFF));
+        }
         due.is("hear of 25 text signs", x.hear(0, 0), 1);
         due.is("number", x.message(0, 0, 1), 1);
         due.is("how many signs", x.message(0, 0, 2), 21);
         due.is("sign 20", x.sign(0, 0, 20), 127);
         due.is("sign 21", x.sign(0, 0, 21), NONE);
-        x.transmit(2);
-        Net.writePlace(x, 2, Net.addressWord(x, 8 * 3 + 1, 0));
+        WakingPagers y = Net.single(8 * 3 + 1, 0);
+        y.transmit(1);
+        Net.writeOverIdle(y, 2, Net.addressWord(y, 8 * 3 + 1, 0));
         for (int place = 3; place < 9; place++) {
-            Net.writePlace(x, place, Net.messageWord(x, Net.digits(2, 1, 7, 7, 7)));
+            int content = place == 7 ? Net.digits(7, 12, 7, 7, 7) : Net.digits(2, 1, 7, 7, 7);
+            Net.writeOverIdle(y, place, Net.messageWord(y, content));
         }
-        Net.writePlace(x, 7, Net.messageWord(x, Net.digits(7, 12, 7, 7, 7)));
-        due.is("hear of 30 numeric signs", x.hear(0, 0), 1);
-        due.is("number", x.message(0, 1, 1), 21);
-        due.is("the 22nd sign is 12, at the end, and left out", x.message(0, 1, 2), 19);
-        due.is("sign 18", x.sign(0, 1, 18), 7);
-        due.is("sign 19", x.sign(0, 1, 19), NONE);
+        due.is("hear of 30 numeric signs", y.hear(0, 0), 1);
+        due.is("number", y.message(0, 0, 1), 21);
+        due.is("the 22nd sign is 12, at the end, and left out", y.message(0, 0, 2), 19);
+        due.is("sign 18", y.sign(0, 0, 18), 7);
+        due.is("sign 19", y.sign(0, 0, 19), NONE);
     }
 
     private static void keepsTheLatestTen() {
@@ -396,6 +411,21 @@ public final class HearTest {
         due.is("kept(0)", x.kept(0), 10);
         keptIs(x, 0, 0, "3:0:123");
         keptIs(x, 0, 9, "3:3:7");
+    }
+
+    private static void marksGoWithTheOldest() {
+        WakingPagers x = Net.single(8, 1);
+        Net.callText(x, 0, 0, "abcd");
+        x.transmit(1);
+        breakPlace(x, 2);
+        due.is("hear(0, 0)", x.hear(0, 0), 1);
+        due.is("message(0, 0, 3)", x.message(0, 0, 3), 1);
+        breakPlace(x, 2);
+        for (int k = 1; k < 13; k++) {
+            due.is("hear " + k, x.hear(0, 0), 1);
+            due.is("message " + Math.min(k, 9) + " is marked", x.message(0, Math.min(k, 9), 3), 0);
+            due.is("message 0 is marked", x.message(0, 0, 3), k < 10 ? 1 : 0);
+        }
     }
 
     private static void wrongQuestions() {

@@ -16,8 +16,8 @@ public final class MissedTest {
     /** The pager hears a message of a number, written on the air as if it had been called. */
     private static void hearNumber(WakingPagers x, int number) {
         x.transmit(1);
-        Net.writePlace(x, 0, Net.addressWord(x, 8, 0));
-        Net.writePlace(x, 1, Net.messageWord(x, Net.digits(number / 10, number % 10, 1, 12, 12)));
+        Net.writeOverIdle(x, 0, Net.addressWord(x, 8, 0));
+        Net.writeOverIdle(x, 1, Net.messageWord(x, Net.digits(number / 10, number % 10, 1, 12, 12)));
         due.is("hear of number " + number, x.hear(0, 0), 1);
     }
 

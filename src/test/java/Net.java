@@ -75,6 +75,15 @@ final class Net {
         write(x, bitOfPlace(place), word);
     }
 
+    /** The same where IDLE is known to stand; an object has calls for many of these. */
+    static void writeOverIdle(WakingPagers x, int place, int word) {
+        for (int k = 0; k < 32; k++) {
+            if (((word ^ IDLE) >>> (31 - k) & 1) == 1) {
+                x.flip(bitOfPlace(place) + k);
+            }
+        }
+    }
+
     static int addressWord(WakingPagers x, int address, int kind) {
         return x.code(address / 8 * 4 + (kind == 0 ? 0 : 3));
     }
