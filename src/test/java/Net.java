@@ -101,6 +101,42 @@ final class Net {
         return Integer.reverse(sign) >>> 28;
     }
 
+    /** The contents of text signs, with bits 0 at the end. */
+    static int[] textContents(int... signs) {
+        int[] contents = new int[(7 * signs.length + 19) / 20];
+        for (int k = 0; k < 7 * signs.length; k++) {
+            contents[k / 20] |= (signs[k / 7] >>> k % 7 & 1) << (19 - k % 20);
+        }
+        return contents;
+    }
+
+    /** A net with one pager that hears address 24, of frame 0, to which contents are on the air. */
+    static WakingPagers onAir(int kind, int... contents) {
+        WakingPagers x = single(24, kind);
+        putOnAir(x, kind, contents);
+        return x;
+    }
+
+    /** A new transmission of contents to address 24, of which no call has been made. */
+    static void putOnAir(WakingPagers x, int kind, int... contents) {
+        x.transmit(1);
+        writeOverIdle(x, 0, addressWord(x, 24, kind));
+        for (int k = 0; k < contents.length; k++) {
+            writeOverIdle(x, 1 + k, messageWord(x, contents[k]));
+        }
+    }
+
+    /** Changes up to four bits of the word that begins at a bit. */
+    static void damage(WakingPagers x, int from, int bits) {
+        for (int k = 0; k < bits; k++) {
+            x.flip(from + 10 * k);
+        }
+    }
+
+    static void damagePlace(WakingPagers x, int place, int bits) {
+        damage(x, bitOfPlace(place), bits);
+    }
+
     /** Kept message k as a text: identity, number, "!" if it is marked, and its signs. */
     static String keptAs(WakingPagers x, int pager, int k) {
         StringBuilder text = new StringBuilder();
