@@ -22,6 +22,7 @@ public final class EdgesOfHearingTest {
         thirtyTwoBitsOfHunting();
         thirtyOneBitsOfHunting();
         wordsBehindTheSync();
+        syncInsideAText();
         awakeForNothing();
         awakeForOneFrame();
         awakeForFramesOnce();
@@ -230,6 +231,29 @@ public final class EdgesOfHearingTest {
             int rest = 44 - shift >= 32 ? 44 - shift : 0;
             countsAre("shift " + shift, x, 52 + 96 + rest, 0, 0, 0);
         }
+    }
+
+    // "until the latest 32 that it took while hunting differ from SYNC": also those of no sync at all
+    private static void syncInsideAText() {
+        WakingPagers x = Net.single(8, 1);
+        Net.callText(x, 0, 0, "0123456789x,Bb");
+        x.transmit(1);
+        due.is("the text's fifth content", Net.wordAtPlace(x, 5), Net.SYNC << 1);
+        due.is("hear from the sync on", x.hear(0, 64), 1);
+        keptIs(x, 0, "0:0:0123456789x,Bb");
+        countsAre("the sync", x, 32 + 8 * 32, 0, 0, 0);
+        // The bit before place 5 and 31 of it are SYNC. The words behind lie one bit too early; as the code is
+        // cyclic, they are repaired: two bits of the text's last word, one of IDLE. One bit is left in the end.
+        due.is("hear from behind the sync's first bit", x.hear(0, 65), 0);
+        int hunted = Net.bitOfPlace(6) - 1 - 65;
+        countsAre("the text for a sync", x, 32 + 8 * 32 + hunted + 64, 3, 0, 0);
+        // Behind the lost sync of the second batch nothing of what was taken before belongs to the hunt.
+        WakingPagers y = Net.single(7, 1);
+        y.transmit(2);
+        Net.damage(y, 608, 3);
+        Net.writeOverIdle(y, 16, Net.SYNC << 1);
+        due.is("hear(0, 0)", y.hear(0, 0), 0);
+        countsAre("31 bits of a sync right behind a lost one", y, 96 + 64 + 32 + 512, 0, 0, 0);
     }
 
     // "It is AWAKE for those in frames of identities that it hears": it hears none
